@@ -353,19 +353,14 @@ public final class FlotationCircuit {
         }
     }
 
-    /** The cell whose shutdown or else improvement gives the greatest total recovery. */
+    /** The cell whose shutdown, or else improvement, gives the greatest total recovery. */
     private int bestChange(boolean shut) {
         int best = NONE;
         int greatest = NONE;
         for (int cell = 0; cell < state.count(); cell++) {
-            trial.copyFrom(state);
-            if (shut) {
-                trial.putPercent(cell, METAL, 0);
-                trial.putPercent(cell, GANGUE, 0);
-            } else {
-                trial.putPercent(cell, METAL, Math.min(ALL, state.percent(cell, METAL) + IMPROVEMENT));
-            }
-            int reached = recoveryOfTrial();
+            changeTrial(cell, shut);
+            shares.compute(trial, balance);
+            int reached = shares.exist() ? shares.recoveryPerMille(trial) : NONE;
             if (reached > greatest) {
                 greatest = reached;
                 best = cell;
@@ -374,9 +369,14 @@ public final class FlotationCircuit {
         return best;
     }
 
-    private int recoveryOfTrial() {
-        shares.compute(trial, balance);
-        return shares.exist() ? shares.recoveryPerMille(trial) : NONE;
+    private void changeTrial(int cell, boolean shut) {
+        trial.copyFrom(state);
+        if (shut) {
+            trial.putPercent(cell, METAL, 0);
+            trial.putPercent(cell, GANGUE, 0);
+        } else {
+            trial.putPercent(cell, METAL, Math.min(ALL, state.percent(cell, METAL) + IMPROVEMENT));
+        }
     }
 
     private void prepareUnknown(int cell, int component) {

@@ -36,7 +36,12 @@ public final class ModelTest {
         long first = args.length > 1 ? Long.parseLong(args[1]) : 1;
         for (long seed = first; seed < first + runs && CHECK.wrong() < 20; seed++) {
             CHECK.part("run " + seed);
-            new ModelTest(seed).run();
+            ModelTest test = new ModelTest(seed);
+            if (seed % 2 == 0) {
+                test.run();
+            } else {
+                test.runOfQuestions();
+            }
         }
         CHECK.end();
     }
@@ -58,6 +63,45 @@ public final class ModelTest {
         }
         while (calls < CALLS) {
             anyCall();
+        }
+    }
+
+    /** Circuits in which much flows everywhere, and all questions about each of them. */
+    private void runOfQuestions() throws Exception {
+        int cells = 3 + random.nextInt(4);
+        for (int i = 0; i < cells; i++) {
+            call("addCell", middling(), middling(), place(), place());
+        }
+        while (calls < CALLS) {
+            call("setFeed", random.nextInt(reference.cellCount()), 1 + random.nextInt(999), random.nextInt(1000));
+            call("setRecovery", cell(), half(), middling());
+            call("setDestination", cell(), half(), place());
+            allQuestions();
+        }
+    }
+
+    private int middling() {
+        return random.nextInt(4) == 0 ? SPECIAL[random.nextInt(SPECIAL.length)] : random.nextInt(101);
+    }
+
+    private void allQuestions() throws Exception {
+        for (int component = 0; component < 2; component++) {
+            for (int to = 0; to < 10; to++) {
+                call("flowNumerator", to, component);
+                call("flowDenominator", to, component);
+            }
+        }
+        for (String name : new String[] {"hasSteadyState", "totalRecovery", "grade", "loopCount", "bestImprovement", "bestShutdown"}) {
+            call(name);
+        }
+        int total = reference.hasSteadyState() ? reference.totalRecovery() : random.nextInt(1001);
+        for (int cell = 0; cell < reference.cellCount(); cell++) {
+            call("isInLoop", cell);
+            call("recoveryFor", cell, Math.max(0, Math.min(1000, total + random.nextInt(41) - 20)));
+        }
+        int measurements = random.nextInt(3);
+        for (int i = 0; i < measurements; i++) {
+            measureSomething();
         }
     }
 
