@@ -451,7 +451,8 @@ public final class FlotationCircuit {
         }
 
         private int present(int to) {
-            return has(to) || to == FINAL_CONCENTRATE ? to : FINAL_TAILINGS;
+            boolean existing = to >= 0 && to < values[COUNT];
+            return existing || to == FINAL_CONCENTRATE ? to : FINAL_TAILINGS;
         }
 
         int feed(int component) {

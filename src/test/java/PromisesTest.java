@@ -574,6 +574,7 @@ public final class PromisesTest {
         CHECK.due("its new metal", full.content(5, 0), 7);
         CHECK.due("its new gangue", full.content(5, 1), 11);
         CHECK.due("what it sent", full.amount(8, 0), 21);
+        CHECK.due("added to what it sent before", full.step(1), 28);
         for (int[] wrong : new int[][] {{-1, 0}, {2, 0}, {8, 0}, {9, 1}, {MIN, 0}, {MAX, 0}, {0, -1}, {0, 2}, {1, MAX}}) {
             CHECK.dueThrow("content" + wrong[0] + "," + wrong[1], INDEX, () -> x.content(wrong[0], wrong[1]));
         }
