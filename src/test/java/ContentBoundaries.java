@@ -59,6 +59,12 @@ final class ContentBoundaries extends Boundary {
         CHECK.due("as amount(8, 0)", x.step(1), x.amount(8, 0));
         x.drain();
         CHECK.due("from 0 behind drain", x.step(1), 0);
+        for (int n = 1; n <= 100; n++) {
+            CHECK.due("step(" + n + ") of a new object", circuit(37, 50, 8, 9).step(n), 37 * (n - 1));
+            FlotationCircuit later = circuit(37, 50, 8, 9);
+            later.step(11);
+            CHECK.due("step(" + n + ") then", later.step(n), 37 * (n + 10));
+        }
     }
 
     private static void stepRefuses() {

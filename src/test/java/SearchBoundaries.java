@@ -109,6 +109,10 @@ final class SearchBoundaries extends Boundary {
         FlotationCircuit gangue = circuit(50, 50, 8, 1, 50, 100, 0, 9);
         gangue.setFeed(0, 0, 900);
         CHECK.due("no gangue leaves with the concentrate", gangue.bestShutdown(), 1);
+        // Here one in 200 of the gangue gets away behind cell 1.
+        FlotationCircuit nearly = circuit(50, 50, 8, 1, 50, 99, 0, 2, 50, 50, 0, 9);
+        nearly.setFeed(0, 0, 900);
+        CHECK.due("all of the gangue leaves with the tailings, not more", nearly.bestShutdown(), 0);
     }
 
     private static void shutdownNotConsidered() {
