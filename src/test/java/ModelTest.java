@@ -73,7 +73,7 @@ public final class ModelTest {
             call("addCell", middling(), middling(), place(), place());
         }
         while (calls < CALLS) {
-            call("setFeed", random.nextInt(reference.cellCount()), 1 + random.nextInt(999), random.nextInt(1000));
+            call("setFeed", random.nextInt(Math.max(1, reference.cellCount())), 1 + random.nextInt(999), random.nextInt(1000));
             call("setRecovery", cell(), half(), middling());
             call("setDestination", cell(), half(), place());
             allQuestions();
