@@ -6,7 +6,7 @@ import java.util.List;
 import java.util.Map;
 import java.util.TreeMap;
 
-/** The sentences of ../shared/DOC.md, so that a sentence without a test of its own is found. */
+/** ../shared/DOC.md: its sentences, so that one without a test of its own is found; its face and its examples. */
 final class Document {
     private static final Path FILE = Path.of("..", "shared", "DOC.md");
 
@@ -35,6 +35,36 @@ final class Document {
 
     static boolean isThere() {
         return Files.isReadable(FILE);
+    }
+
+    /** The lines of the public face between the class's two braces, each without what is around it. */
+    static List<String> face() throws IOException {
+        List<String> face = new ArrayList<>();
+        boolean inside = false;
+        for (String line : Files.readAllLines(FILE)) {
+            if (inside && line.equals("}")) {
+                return face;
+            }
+            if (inside) {
+                face.add(line.trim());
+            }
+            inside |= line.equals("public final class FlotationCircuit {");
+        }
+        return face;
+    }
+
+    /** The paragraph of the examples, with its lines as they are printed. */
+    static String examples() throws IOException {
+        StringBuilder examples = new StringBuilder();
+        for (String line : Files.readAllLines(FILE)) {
+            if (examples.length() > 0 && line.isBlank()) {
+                break;
+            }
+            if (examples.length() > 0 || line.startsWith("Examples: ")) {
+                examples.append(line).append('\n');
+            }
+        }
+        return examples.toString();
     }
 
     private static int section(String line, int before) {

@@ -1,67 +1,50 @@
-/** The five examples of the document. */
+import java.util.List;
+import java.util.StringJoiner;
+
+/** The document's five examples, made from their text as it is printed. */
 public final class ExamplesTest {
     private static final Check CHECK = new Check();
 
-    public static void main(String[] args) {
-        oneCell();
-        twoCellsInALoop();
-        noSteadyState();
-        noCells();
-        wrongText();
+    private static final int[] CALLS = {7, 7, 5, 4, 6};
+
+    private static final String PRINTED = """
+            Examples: Each of them begins with a new object; the results are given behind the calls.
+            1. One cell: steady state and simulation: addCell(80, 20, 8, 9) = 0; totalRecovery() = 800; grade() = 307;
+            flowNumerator(0, 1) = 900; step(2) = 80; amount(9, 0) = 20; content(0, 0) = 100.
+            2. Two cells in a loop: addCell(50, 10, 1, 9) = 0; addCell(50, 10, 8, 0) = 1; flowNumerator(0, 0) = 400;
+            flowDenominator(0, 0) = 3; totalRecovery() = 333; loopCount() = 1; bestShutdown() = 0.
+            3. A cell that returns everything to itself has no steady state: addCell(50, 50, 0, 0) = 0;
+            hasSteadyState() = false; totalRecovery() = throws IllegalStateException; step(3) = 0; content(0, 1) = 2700.
+            4. Without cells, the feed goes to the final tailings: flowNumerator(9, 0) = 100; recovery(0, 0) = throws
+            IndexOutOfBoundsException; bestImprovement() = -9; grade() = 0.
+            5. A text with a wrong character: append(70) = 1; append(48) = 2; append(49) = 3; append(88) = 4;
+            errorPosition() = 3; load() = throws IllegalStateException.
+            """;
+
+    public static void main(String[] args) throws Exception {
+        CHECK.part("the examples");
+        if (Document.isThere()) {
+            CHECK.isTrue("the examples stand in the document as they are printed here", Document.examples().equals(PRINTED));
+        }
+        String[] examples = PRINTED.split("(?m)^(?=\\d\\. )");
+        CHECK.due("the number of examples", examples.length - 1, CALLS.length);
+        for (int i = 1; i < examples.length; i++) {
+            makeCalls(i, Document.plain(examples[i]));
+        }
         CHECK.end();
     }
 
-    private static void oneCell() {
-        CHECK.part("example 1");
+    private static void makeCalls(int number, String example) throws Exception {
+        CHECK.part("example " + number);
+        List<PrintedCall> calls = PrintedCall.in(example);
+        CHECK.due("the number of calls", calls.size(), CALLS[number - 1]);
+        StringJoiner read = new StringJoiner("; ", ": ", ".");
         FlotationCircuit x = new FlotationCircuit();
-        CHECK.due("addCell(80, 20, 8, 9)", x.addCell(80, 20, 8, 9), 0);
-        CHECK.due("totalRecovery()", x.totalRecovery(), 800);
-        CHECK.due("grade()", x.grade(), 307);
-        CHECK.due("flowNumerator(0, 1)", x.flowNumerator(0, 1), 900);
-        CHECK.due("step(2)", x.step(2), 80);
-        CHECK.due("amount(9, 0)", x.amount(9, 0), 20);
-        CHECK.due("content(0, 0)", x.content(0, 0), 100);
-    }
-
-    private static void twoCellsInALoop() {
-        CHECK.part("example 2");
-        FlotationCircuit x = new FlotationCircuit();
-        CHECK.due("addCell(50, 10, 1, 9)", x.addCell(50, 10, 1, 9), 0);
-        CHECK.due("addCell(50, 10, 8, 0)", x.addCell(50, 10, 8, 0), 1);
-        CHECK.due("flowNumerator(0, 0)", x.flowNumerator(0, 0), 400);
-        CHECK.due("flowDenominator(0, 0)", x.flowDenominator(0, 0), 3);
-        CHECK.due("totalRecovery()", x.totalRecovery(), 333);
-        CHECK.due("loopCount()", x.loopCount(), 1);
-        CHECK.due("bestShutdown()", x.bestShutdown(), 0);
-    }
-
-    private static void noSteadyState() {
-        CHECK.part("example 3");
-        FlotationCircuit x = new FlotationCircuit();
-        CHECK.due("addCell(50, 50, 0, 0)", x.addCell(50, 50, 0, 0), 0);
-        CHECK.due("hasSteadyState()", x.hasSteadyState(), false);
-        CHECK.dueThrow("totalRecovery()", IllegalStateException.class, () -> x.totalRecovery());
-        CHECK.due("step(3)", x.step(3), 0);
-        CHECK.due("content(0, 1)", x.content(0, 1), 2700);
-    }
-
-    private static void noCells() {
-        CHECK.part("example 4");
-        FlotationCircuit x = new FlotationCircuit();
-        CHECK.due("flowNumerator(9, 0)", x.flowNumerator(9, 0), 100);
-        CHECK.dueThrow("recovery(0, 0)", IndexOutOfBoundsException.class, () -> x.recovery(0, 0));
-        CHECK.due("bestImprovement()", x.bestImprovement(), -9);
-        CHECK.due("grade()", x.grade(), 0);
-    }
-
-    private static void wrongText() {
-        CHECK.part("example 5");
-        FlotationCircuit x = new FlotationCircuit();
-        CHECK.due("append(70)", x.append(70), 1);
-        CHECK.due("append(48)", x.append(48), 2);
-        CHECK.due("append(49)", x.append(49), 3);
-        CHECK.due("append(88)", x.append(88), 4);
-        CHECK.due("errorPosition()", x.errorPosition(), 3);
-        CHECK.dueThrow("load()", IllegalStateException.class, () -> x.load());
+        for (PrintedCall call : calls) {
+            read.add(call.printed());
+            String answer = call.answerOf(x);
+            CHECK.isTrue(call.printed() + " (answered: " + answer + ")", answer.equals(call.due()));
+        }
+        CHECK.isTrue("each call of the example was read", example.endsWith(read.toString()));
     }
 }

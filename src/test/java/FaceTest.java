@@ -4,6 +4,7 @@ import java.lang.reflect.Modifier;
 import java.nio.file.Files;
 import java.nio.file.Path;
 import java.util.Arrays;
+import java.util.List;
 import java.util.Set;
 import java.util.TreeSet;
 
@@ -31,6 +32,7 @@ public final class FaceTest {
     public static void main(String[] args) throws Exception {
         constants();
         members();
+        documentsFace();
         source();
         CHECK.end();
     }
@@ -79,10 +81,31 @@ public final class FaceTest {
         }
     }
 
+    private static String code() throws Exception {
+        String source = Files.readString(Path.of("src/main/java/FlotationCircuit.java"));
+        return source.replaceAll("(?s)/\\*.*?\\*/", "").replaceAll("//[^\n]*", "");
+    }
+
+    /** Types, names of parameters and exceptions as the document prints them, and nothing public beside them. */
+    private static void documentsFace() throws Exception {
+        CHECK.part("the document's face");
+        if (!Document.isThere()) {
+            System.out.println("the document is not here: its face is not compared");
+            return;
+        }
+        String code = Document.plain(code());
+        List<String> face = Document.face();
+        for (String line : face) {
+            String head = line.startsWith("public static final") ? line : line.replaceAll(";$", " {");
+            CHECK.isTrue("the source has " + line, code.contains(" " + head));
+        }
+        CHECK.due("lines of the face", face.size(), METHODS.length + 3);
+        CHECK.due("public members", code.split("\\bpublic\\b", -1).length - 2, face.size());
+    }
+
     private static void source() throws Exception {
         CHECK.part("source");
-        String source = Files.readString(Path.of("src/main/java/FlotationCircuit.java"));
-        String code = source.replaceAll("(?s)/\\*.*?\\*/", "").replaceAll("//[^\n]*", "");
+        String code = code();
         for (String word : FORBIDDEN) {
             CHECK.isTrue("the source does without " + word, !code.contains(word));
         }
